@@ -379,23 +379,11 @@ public final class ClockPool {
 
         private int roomFor(int flushed) {
             int empty = find(NONE);
-            if (empty >= 0) {
-                return empty;
-            }
-            // Asked before the hand goes round, as a round in vain must leave the marks alone.
-            return anyMayBeTaken(flushed) ? turnHand(flushed) : NONE;
+            return empty >= 0 ? empty : turnHand(flushed);
         }
 
-        private boolean anyMayBeTaken(int flushed) {
-            for (int i = 0; i < frames.length; i++) {
-                if (frames[i].mayBeTaken(flushed)) {
-                    return true;
-                }
-            }
-            return false;
-        }
-
-        // Two rounds are enough: the first takes away every mark that stands in the way.
+        // Two rounds are enough: the first takes away every mark that stands in the way. If none
+        // may be taken, no mark goes, and behind two whole rounds the hand is where it was.
         private int turnHand(int flushed) {
             for (int step = 0; step < 2 * frames.length; step++) {
                 int at = hand;

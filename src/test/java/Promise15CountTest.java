@@ -1,8 +1,45 @@
 public final class Promise15CountTest {
     public static void main(String[] args) {
-        ClockPool pool = new ClockPool(2);
-        if (pool.count(0) != 0) {
-            System.exit(1);
-        }
+        new Run("every count", 2)
+                .call("begin").call("begin").call("fetch", 1).call("fetch", 2)
+                .call("set", 0, 1, 0, 1).call("set", 1, 2, 0, 2).call("set", 1, 2, 1, 3)
+                .call("flush", 2)
+                .due(3, "count", 0)
+                .due(2, "count", 1)
+                .due(2, "count", 2)
+                .due(0, "count", 3)
+                .due(0, "count", 4)
+                .due(2, "count", 5)
+                .due(0, "count", 6)
+                .due(0, "count", 7)
+                .call("clean", 1).call("release", 1).call("fetch", 3)
+                .due(1, "count", 3)
+                .due(1, "count", 4)
+                .due(3, "count", 5)
+                .call("release", 2).call("flush", 3).call("fetch", 4)
+                .due(0, "count", 3)
+                .due(2, "count", 4)
+                .due(4, "count", 5)
+                .due(0, "crash")
+                .due(8, "count", 0)
+                .due(8, "count", 1)
+                .due(0, "count", 2)
+                .due(0, "count", 3)
+                .due(2, "count", 4)
+                .due(4, "count", 5)
+                .due(1, "count", 6)
+                .due(3, "count", 7)
+                .call("begin").call("fetch", 1).call("set", 0, 1, 0, 1).call("abort", 0)
+                .due(3, "count", 7)
+                .due(5, "count", 5)
+                .due(3, "crash")
+                .due(0, "count", 7)
+                .due(2, "count", 6);
+        new Run("no such count", 2)
+                .argument("count", -1)
+                .argument("count", 8)
+                .argument("count", Integer.MIN_VALUE)
+                .argument("count", Integer.MAX_VALUE);
+        Run.finish();
     }
 }

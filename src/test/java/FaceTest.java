@@ -11,23 +11,23 @@ public final class FaceTest {
     private static final String BOTH = " throws IllegalArgumentException IllegalStateException";
 
     private static final String[] FACE = {
-        "final int NONE",
-        "final int FULL",
-        "ClockPool(int)",
-        "int fetch(int)" + ARGUMENT,
-        "int release(int)" + BOTH,
-        "int get(int int)" + BOTH,
-        "int begin()",
-        "int set(int int int int)" + BOTH,
-        "int commit(int)" + BOTH,
-        "int abort(int)" + BOTH,
-        "int flush(int)" + ARGUMENT,
-        "boolean clean(int)" + ARGUMENT,
-        "int crash()",
-        "int disk(int int)" + ARGUMENT,
-        "int frame(int int)" + ARGUMENT,
-        "int log(int int)" + ARGUMENT,
-        "int count(int)" + ARGUMENT,
+        "public static final int NONE",
+        "public static final int FULL",
+        "public ClockPool(int)",
+        "public int fetch(int)" + ARGUMENT,
+        "public int release(int)" + BOTH,
+        "public int get(int int)" + BOTH,
+        "public int begin()",
+        "public int set(int int int int)" + BOTH,
+        "public int commit(int)" + BOTH,
+        "public int abort(int)" + BOTH,
+        "public int flush(int)" + ARGUMENT,
+        "public boolean clean(int)" + ARGUMENT,
+        "public int crash()",
+        "public int disk(int int)" + ARGUMENT,
+        "public int frame(int int)" + ARGUMENT,
+        "public int log(int int)" + ARGUMENT,
+        "public int count(int)" + ARGUMENT,
     };
 
     public static void main(String[] args) {
@@ -48,18 +48,21 @@ public final class FaceTest {
         TreeSet<String> seen = new TreeSet<>();
         for (Field field : ClockPool.class.getDeclaredFields()) {
             if (!Modifier.isPrivate(field.getModifiers())) {
-                seen.add("final " + field.getType() + " " + field.getName());
+                seen.add(Modifier.toString(field.getModifiers()) + " " + field.getType()
+                        + " " + field.getName());
             }
         }
         for (Constructor<?> made : ClockPool.class.getDeclaredConstructors()) {
             if (!Modifier.isPrivate(made.getModifiers())) {
-                seen.add("ClockPool(" + names(made.getParameterTypes()) + ")");
+                seen.add(Modifier.toString(made.getModifiers())
+                        + " ClockPool(" + names(made.getParameterTypes()) + ")");
             }
         }
         for (Method method : ClockPool.class.getDeclaredMethods()) {
             if (!Modifier.isPrivate(method.getModifiers())) {
                 Class<?>[] thrown = method.getExceptionTypes();
-                seen.add(method.getReturnType() + " " + method.getName()
+                seen.add(Modifier.toString(method.getModifiers())
+                        + " " + method.getReturnType() + " " + method.getName()
                         + "(" + names(method.getParameterTypes()) + ")"
                         + (thrown.length == 0 ? "" : " throws " + names(thrown)));
             }

@@ -1,7 +1,8 @@
 public final class Promise01NewObjectTest {
     public static void main(String[] args) {
         hasAsManyFramesAsTold();
-        takesTheNearestNumberOfFrames();
+        takesOneFrameForLess();
+        takesEightFramesForMore();
         isEmpty();
         objectsAreApart();
         Run.holds("NONE is -1", ClockPool.NONE == -1);
@@ -15,10 +16,14 @@ public final class Promise01NewObjectTest {
         }
     }
 
-    private static void takesTheNearestNumberOfFrames() {
+    private static void takesOneFrameForLess() {
         hasFrames(0, 1);
         hasFrames(-1, 1);
+        hasFrames(-8, 1);
         hasFrames(Integer.MIN_VALUE, 1);
+    }
+
+    private static void takesEightFramesForMore() {
         hasFrames(9, 8);
         hasFrames(20, 8);
         hasFrames(Integer.MAX_VALUE, 8);

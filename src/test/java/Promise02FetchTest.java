@@ -9,7 +9,10 @@ public final class Promise02FetchTest {
         writesWhatItTakesOut();
         writesNothingThatIsNotDirty();
         isFullAndChangesNothing();
+        isNotFullForAPageThatIsThere();
+        answersTheFrameOfEachPage();
         refusesOtherPages();
+        throwsBeforeItIsFull();
         Run.finish();
     }
 
@@ -146,6 +149,26 @@ public final class Promise02FetchTest {
                 .full("fetch", 5);
     }
 
+    private static void isNotFullForAPageThatIsThere() {
+        new Run("there, though all are pinned", 2)
+                .call("fetch", 1).call("fetch", 2)
+                .due(Run.FULL, "fetch", 3)
+                .due(0, "fetch", 1)
+                .due(1, "fetch", 2)
+                .frame(0, 1, 2, 0, 1, 0)
+                .frame(1, 2, 2, 0, 1, 0);
+    }
+
+    private static void answersTheFrameOfEachPage() {
+        new Run("pages 0 and 31", 2)
+                .due(0, "fetch", 31)
+                .due(1, "fetch", 0)
+                .due(0, "fetch", 31)
+                .due(1, "fetch", 0)
+                .frame(0, 31, 2, 0, 1, 0)
+                .frame(1, 0, 2, 0, 1, 0);
+    }
+
     private static void refusesOtherPages() {
         new Run("no such page", 2)
                 .argument("fetch", -1)
@@ -153,6 +176,9 @@ public final class Promise02FetchTest {
                 .argument("fetch", Integer.MIN_VALUE)
                 .argument("fetch", Integer.MAX_VALUE)
                 .due(0, "fetch", 31);
+    }
+
+    private static void throwsBeforeItIsFull() {
         new Run("no such page, and no room", 1)
                 .call("fetch", 0)
                 .argument("fetch", 32);

@@ -3,11 +3,22 @@ public final class Promise06SetTest {
         writesTheFrameAndTheLog();
         takesAnyValue();
         makesDirtyAgain();
-        isFullWhenTheLogIs();
-        keepsRoomForAllActiveOnes();
+        fitsWithRoomForAllJustEnough();
+        isFullWithOneRecordTooFew();
+        countsAnEndForEachActiveOne();
+        countsTheUndosOfOthers();
+        countsNoUpdatesThatAreCommitted();
         countsWhatAnAbortUndid();
         forgetsWhatACrashTook();
-        refuses();
+        leavesACleanPageCleanIfFull();
+        refusesOtherTransactions();
+        refusesOtherPages();
+        refusesOtherNumbers();
+        letsIllegalArgumentWin();
+        refusesOneThatIsNotActive();
+        refusesAPageWithoutPins();
+        refusesOneWhoseAbortWasBegun();
+        fullComesLast();
         Run.finish();
     }
 
@@ -53,7 +64,7 @@ public final class Promise06SetTest {
     }
 
     // One active: 199 updates, 199 undos, an end, and one more are 400.
-    private static void isFullWhenTheLogIs() {
+    private static void fitsWithRoomForAllJustEnough() {
         Run run = new Run("room for its own undo", 1).call("begin").call("fetch", 0);
         for (int i = 1; i <= 199; i++) {
             run.due(i, "set", 0, 0, i & 7, i);
@@ -69,8 +80,20 @@ public final class Promise06SetTest {
         run.due(399, "crash").due(0, "count", 0).due(0, "begin");
     }
 
+    // Two active: 198 updates and undos, two ends, and one more are 399; 199 would be 401.
+    private static void isFullWithOneRecordTooFew() {
+        Run run = new Run("one record too few", 1).call("begin").call("begin").call("fetch", 0);
+        for (int i = 1; i <= 198; i++) {
+            run.due(i, "set", 0, 0, 0, i);
+        }
+        run.full("set", 0, 0, 0, 5)
+                .full("set", 1, 0, 0, 5)
+                .due(199, "commit", 1)
+                .full("set", 0, 0, 0, 5);
+    }
+
     // Eight active: 195 updates and undos, eight ends, and one more are 399; 196 would be 401.
-    private static void keepsRoomForAllActiveOnes() {
+    private static void countsAnEndForEachActiveOne() {
         Run run = new Run("room for all active ones", 1).call("fetch", 0);
         for (int t = 0; t < 8; t++) {
             run.due(t, "begin");
@@ -86,6 +109,36 @@ public final class Promise06SetTest {
                 .due(1, "crash")
                 .due(171, "count", 7)
                 .due(196 + 171 + 7, "count", 0);
+    }
+
+    // Both have 99 updates: with their undos, two ends, and one more these are 399.
+    private static void countsTheUndosOfOthers() {
+        Run run = new Run("the others' undos", 1).call("begin").call("begin").call("fetch", 0);
+        for (int i = 1; i <= 99; i++) {
+            run.due(i, "set", 0, 0, 0, i);
+        }
+        for (int i = 100; i <= 198; i++) {
+            run.due(i, "set", 1, 0, 1, i);
+        }
+        run.full("set", 1, 0, 1, 5)
+                .due(99, "abort", 0)
+                .due(298, "count", 0)
+                .full("set", 1, 0, 1, 5)
+                .due(99, "abort", 1)
+                .due(398, "count", 0);
+    }
+
+    // 101 records stand behind the commit: 148 updates and undos, an end, and one more make 399.
+    private static void countsNoUpdatesThatAreCommitted() {
+        Run run = new Run("updates that are committed", 1).call("begin").call("fetch", 0);
+        for (int i = 1; i <= 100; i++) {
+            run.due(i, "set", 0, 0, 0, i);
+        }
+        run.due(101, "commit", 0).due(0, "begin");
+        for (int i = 102; i <= 249; i++) {
+            run.due(i, "set", 0, 0, 0, i);
+        }
+        run.full("set", 0, 0, 0, 5).due(148, "abort", 0).due(398, "count", 0);
     }
 
     private static void countsWhatAnAbortUndid() {
@@ -120,29 +173,70 @@ public final class Promise06SetTest {
         run.full("set", 0, 0, 0, 5);
     }
 
-    private static void refuses() {
-        new Run("no such number", 2)
+    private static void leavesACleanPageCleanIfFull() {
+        Run run = new Run("FULL leaves a clean page", 2)
+                .call("begin").call("fetch", 0).call("fetch", 1);
+        for (int i = 1; i <= 199; i++) {
+            run.due(i, "set", 0, 0, 0, i);
+        }
+        run.full("set", 0, 1, 3, 5)
+                .frame(1, 1, 1, 0, 1, 0)
+                .due(0, "get", 1, 3);
+    }
+
+    private static void refusesOtherTransactions() {
+        new Run("no such transaction", 2)
                 .call("begin").call("fetch", 0)
                 .argument("set", -1, 0, 0, 1)
                 .argument("set", 8, 0, 0, 1)
+                .argument("set", Integer.MIN_VALUE, 0, 0, 1)
+                .argument("set", Integer.MAX_VALUE, 0, 0, 1);
+    }
+
+    private static void refusesOtherPages() {
+        new Run("no such page", 2)
+                .call("begin").call("fetch", 0)
                 .argument("set", 0, -1, 0, 1)
                 .argument("set", 0, 32, 0, 1)
+                .argument("set", 0, Integer.MIN_VALUE, 0, 1)
+                .argument("set", 0, Integer.MAX_VALUE, 0, 1);
+    }
+
+    private static void refusesOtherNumbers() {
+        new Run("no such number", 2)
+                .call("begin").call("fetch", 0)
                 .argument("set", 0, 0, -1, 1)
                 .argument("set", 0, 0, 8, 1)
-                .argument("set", Integer.MAX_VALUE, 0, 0, 1)
-                .argument("set", 0, Integer.MIN_VALUE, 0, 1)
+                .argument("set", 0, 0, Integer.MIN_VALUE, 1)
                 .argument("set", 0, 0, Integer.MAX_VALUE, 1);
+    }
+
+    private static void letsIllegalArgumentWin() {
         new Run("IllegalArgument wins", 2)
                 .argument("set", 0, 0, 8, 1)
                 .argument("set", 0, 32, 0, 1)
                 .argument("set", 8, 0, 0, 1);
-        new Run("not active", 2)
+    }
+
+    private static void refusesOneThatIsNotActive() {
+        new Run("never begun", 2)
                 .call("fetch", 0)
                 .state("set", 0, 0, 0, 1)
+                .state("set", 7, 0, 0, 1)
                 .call("begin")
-                .state("set", 1, 0, 0, 1)
-                .call("commit", 0)
+                .state("set", 1, 0, 0, 1);
+        new Run("committed", 2)
+                .call("fetch", 0).call("begin").call("commit", 0)
                 .state("set", 0, 0, 0, 1);
+        new Run("aborted", 2)
+                .call("fetch", 0).call("begin").call("abort", 0)
+                .state("set", 0, 0, 0, 1);
+        new Run("behind a crash", 2)
+                .call("begin").call("crash").call("fetch", 0)
+                .state("set", 0, 0, 0, 1);
+    }
+
+    private static void refusesAPageWithoutPins() {
         new Run("no pins", 2)
                 .call("begin")
                 .state("set", 0, 0, 0, 1)
@@ -150,6 +244,15 @@ public final class Promise06SetTest {
                 .state("set", 0, 0, 0, 1)
                 .call("fetch", 0)
                 .due(1, "set", 0, 0, 0, 1);
+        new Run("taken out", 1)
+                .call("begin").call("fetch", 0).call("release", 0).call("fetch", 1)
+                .state("set", 0, 0, 0, 1);
+        new Run("a crash took its pins", 1)
+                .call("fetch", 0).call("crash").call("begin")
+                .state("set", 0, 0, 0, 1);
+    }
+
+    private static void refusesOneWhoseAbortWasBegun() {
         new Run("abort begun", 1)
                 .call("begin").call("fetch", 0).call("set", 0, 0, 0, 1).call("release", 0)
                 .call("flush", 1).call("fetch", 1)
@@ -157,7 +260,6 @@ public final class Promise06SetTest {
                 .state("set", 0, 1, 0, 1)
                 .due(1, "begin")
                 .due(2, "set", 1, 1, 0, 1);
-        fullComesLast();
     }
 
     private static void fullComesLast() {

@@ -13,6 +13,7 @@ public final class Promise11CrashTest {
         undoesAgainWhatIsForgotten();
         comesAgain();
         hasRoom();
+        answersHowManyAreGone();
         Run.finish();
     }
 
@@ -239,5 +240,19 @@ public final class Promise11CrashTest {
                 .due(0, "abort", 0)
                 .due(399, "count", 0)
                 .full("begin");
+    }
+
+    // Of the records of a crash itself, undos and ends, none is counted.
+    private static void answersHowManyAreGone() {
+        for (int flushed = 0; flushed <= 5; flushed++) {
+            new Run("flushed up to " + flushed, 1)
+                    .call("begin").call("fetch", 0)
+                    .call("set", 0, 0, 0, 1).call("set", 0, 0, 0, 2).call("set", 0, 0, 0, 3)
+                    .call("set", 0, 0, 0, 4).call("set", 0, 0, 0, 5)
+                    .due(flushed, "flush", flushed)
+                    .due(5 - flushed, "crash")
+                    .due(flushed, "count", 7)
+                    .due(flushed == 0 ? 0 : 2 * flushed + 1, "count", 0);
+        }
     }
 }

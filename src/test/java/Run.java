@@ -118,9 +118,11 @@ final class Run {
     }
 
     private Run unchanged(String answer, String name, int... args) {
-        String before = everything();
+        // The same for before and after, though one call lies between them.
+        int counts = Math.max(0, Math.min(8, MOST_CALLS - made.size() - 2));
+        String before = everything(counts);
         check(new Call(name, args), answer);
-        String after = everything();
+        String after = everything(counts);
         checked++;
         if (!before.equals(after)) {
             tell(new Call(name, args).text() + " changed something");
@@ -153,7 +155,7 @@ final class Run {
         return other;
     }
 
-    private String everything() {
+    private String everything(int counts) {
         StringBuilder seen = new StringBuilder();
         ClockPool other = again();
         int used = made.size();
@@ -165,9 +167,28 @@ final class Run {
             seen.append(look.text()).append(look.answerOf(other)).append('\n');
             used++;
         }
-        // Which transactions are active, and of which an abort was begun, only a commit tells.
+        for (Call next : nexts()) {
+            seen.append(next.text()).append(whatFollows(next, counts)).append('\n');
+        }
+        return seen.toString();
+    }
+
+    // Which transactions are active, of which an abort was begun, what would be undone: only what
+    // these calls do shows it.
+    private static List<Call> nexts() {
+        List<Call> nexts = new ArrayList<>(List.of(new Call("begin"), new Call("crash")));
         for (int t = 0; t < 8; t++) {
-            seen.append(new Call("commit", t).answerOf(again())).append('\n');
+            nexts.add(new Call("commit", t));
+            nexts.add(new Call("abort", t));
+        }
+        return nexts;
+    }
+
+    private String whatFollows(Call next, int counts) {
+        ClockPool other = again();
+        StringBuilder seen = new StringBuilder(next.answerOf(other));
+        for (int what = 0; what < counts; what++) {
+            seen.append(' ').append(other.count(what));
         }
         return seen.toString();
     }
